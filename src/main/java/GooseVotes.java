@@ -573,9 +573,6 @@ public final class GooseVotes {
     }
 
     private int doneByAgendaOf(World world) {
-        if (world.agendaSize == 0) {
-            return NOT_ANY;
-        }
         return ballotOf(world).doneBy(world.agenda, world.agendaSize);
     }
 

@@ -89,6 +89,14 @@ public final class ImageActTest {
             Check.due("2: its KIND", 5, x.of(2, 0));
             Check.due("2: its BASE", 5, x.base(2, 0, 1));
             Check.due("2: it is not AWAY", 0, x.away(2, true));
+            x.undo();
+            Check.due("2: one of another KIND comes", 2, x.official(6, 1, 1));
+            Check.due("2: its ROW", 0, x.row(2, 1, 9));
+            Check.due("2: it is not AWAY", 0, x.away(2, true));
+            x.undo();
+            x.official(6, 1, 1);
+            Check.due("2: its ROW", 0, x.row(2, 1, 0));
+            Check.due("2: it is not AWAY", 0, x.away(2, false));
         }
         Check.due("30: a newer image", 3, x.image());
         x.egg(0);
@@ -198,6 +206,7 @@ public final class ImageActTest {
         GooseVotes x = Check.withVotes(0, 1);
         x.official(6, 5, 1);
         dueAct(x, 1, 0, 7, 8 ^ 5, 71, 10);
+        dueAct(x, 1, 0, 4, 0, 71, 10);
         int looks7 = (8 ^ 5) - 5 + 3;
         int looks1 = (2 ^ 5) - 5 + 3;
         dueAct(x, 1, 1, 7, looks7, 70, 11, 71, 10, 10);

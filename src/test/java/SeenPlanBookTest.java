@@ -6,6 +6,7 @@ public final class SeenPlanBookTest {
         bases();
         plan();
         ends();
+        triedApart();
         book();
         looked();
         Check.end("SeenPlanBookTest");
@@ -141,6 +142,17 @@ public final class SeenPlanBookTest {
         x.plan(2, 2);
         x.plan(0, 0);
         Check.due("26: EGG behind 2 again", 7, x.ends(0));
+        x.plan(-1, 0);
+        x.plan(3, 0);
+        x.plan(1, 0);
+        x.plan(0, 2);
+        Check.due("26: EGG behind 2 by the others", 5, x.ends(0));
+        x.away(2, true);
+        x.plan(1, 1);
+        x.plan(2, 0);
+        x.plan(0, 0);
+        Check.due("26: EGG behind 0 by one that is back", 8, x.ends(0));
+        x.away(2, false);
         Check.due("26: nothing changed: SESSION", 0, x.told(0));
         Check.due("26: nothing changed: EGG", 0, x.told(2));
         Check.due("26: nothing changed: AWAY", 0, x.of(1, 3));
@@ -152,6 +164,27 @@ public final class SeenPlanBookTest {
         Check.due("26: what was DONE before", 16, x.ends(1));
         Check.due("26: what 2", Check.NONE, x.ends(2));
         Check.due("26: what -1", Check.NONE, x.ends(-1));
+    }
+
+    /** What is tried for CAN and BASES leaves nothing behind in what is tried for ON and ENDS. */
+    private static void triedApart() {
+        GooseVotes x = Check.withVotes(1, 1);
+        x.put(1);
+        x.put(0);
+        x.plan(0, 0);
+        x.see(0, 0, 1, true);
+        Check.due("23: v above 0", 9, x.can(0, 0));
+        Check.due("24: BASE above 5", 4, x.bases(0, 0, 0));
+        Check.due("26: v and BASE are its own again", 2, x.ends(1));
+        Check.due("15: v and BASE are its own again", 1, x.on(1, 11));
+        GooseVotes y = new GooseVotes();
+        y.official(1, 1, 1);
+        y.put(1);
+        y.put(0);
+        y.see(0, 1, 0, true);
+        Check.due("23: by none", 0, y.can(0, 0));
+        Check.due("24: BASE below 4", 4, y.bases(0, 0, 0));
+        Check.due("15: v and BASE are its own again", 1, y.on(1, 10));
     }
 
     private static void book() {

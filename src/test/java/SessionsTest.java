@@ -53,6 +53,9 @@ public final class SessionsTest {
             Check.due("12: told(" + what + ")", Check.NONE, x.told(what));
         }
         manyRings();
+        GooseVotes y = Check.withVotes(0, 1);
+        Check.treaty(y, "loathe 1 x=0");
+        Check.due("12: 0 is LAST", 1, y.told(6));
     }
 
     /** 0 BEATS 1 and 2, 1 BEATS 2 and 3, 2 BEATS 3 and 4, 3 BEATS 4 and 0, 4 BEATS 0 and 1: five RINGS. */
@@ -228,6 +231,9 @@ public final class SessionsTest {
     }
 
     private static void bribeOfSeveral() {
+        GooseVotes all = Check.withVotes(0, 1, 1, 1, 1, 1, 1);
+        Check.treaty(all, "like 1 x=0&p=2;like 1 x=1&!p=2");
+        Check.due("17: all others of six", 59, all.bribe(0));
         GooseVotes x = Check.withVotes(0, 1, 1, 1, 1);
         Check.bases(x, 0, 9, 8, 0, 0, 0);
         Check.bases(x, 1, 9, 8, 0, 0, 0);

@@ -33,6 +33,7 @@ public final class TapeTest {
         Check.due("36: none is there", Check.PLACE, x.item(4, 0, 0));
         Check.due("36: holds nothing, n does not matter", 1, x.tape(4, -1, -99));
         Check.due("36: nothing there", Check.NOTHING, x.item(4, 0, 0));
+        Check.due("36: nothing to read", Check.NO, x.read(4, 0));
         Check.due("36: holds nothing, n does not matter", 1, x.tape(4, -1, 99));
     }
 

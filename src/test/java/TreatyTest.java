@@ -7,6 +7,7 @@ public final class TreatyTest {
         tests();
         joining();
         clauses();
+        afterFault();
         holding();
         Check.end("TreatyTest");
     }
@@ -66,6 +67,10 @@ public final class TreatyTest {
         dueFault("like 1 p=1)", 10);
         dueFault("like 1 p=1|", 11);
         dueFault("like 1 p=1|&", 11);
+        dueFault("like 1 p=1&", 11);
+        dueFault("like 1 p=1&;quota 1", 11);
+        dueFault("like 1 !(p=1&)", 13);
+        dueFault("loathe 1 p=1&|", 13);
         dueFault("like 1 p=1;", 11);
         dueFault("like 1 p=1;;", 11);
         dueFault("like 1 (p=1", 11);
@@ -146,6 +151,8 @@ public final class TreatyTest {
         dueTest("!" + f + "&" + f, false);
         dueTest("!" + t + "|" + t, true);
         dueTest("!(" + t + "|" + t + ")", false);
+        dueTest(f + "|!" + t, false);
+        dueTest(t + "&!" + f, true);
         dueTest("!(" + f + "&" + t + ")", true);
         dueTest(f + "|" + f + "|" + f + "|" + t, true);
         dueTest(t + "&" + t + "&" + t + "&" + f, false);
@@ -170,6 +177,24 @@ public final class TreatyTest {
             "like 1 x<5;like 1 x<5;like 1 x<5;like 1 x<5;like 1 x<5;like 1 x<5;like 1 x<5;like 1 x<5;like 1 x<5"));
         Check.due("11: all of its clauses", 14, x.of(0, 20));
         Check.due("11: no QUOTA in it", 0, x.told(1));
+    }
+
+    /** What was read ahead of a FAULT is no part of the TREATY that comes next. */
+    private static void afterFault() {
+        GooseVotes x = Check.withVotes(0, 1);
+        Check.due("11: a fault behind a quota", -18, Check.treaty(x, "quota 9;"));
+        Check.due("11: a fault behind a like", -21, Check.treaty(x, "like 5 x=1;"));
+        Check.due("11: a fault behind a test", -26, Check.treaty(x, "like 7 x=2&x<9&x"));
+        Check.due("11: TREATY", 0, Check.treaty(x, "like 1 x=0"));
+        Check.due("11: no QUOTA", 0, x.told(1));
+        Check.due("11: its like", 6, x.of(0, 20));
+        Check.due("11: no like of another", 5, x.of(0, 21));
+        Check.due("11: no test of another", 5, x.of(0, 22));
+        GooseVotes y = Check.withVotes(0, 1);
+        Check.due("11: a fault behind a test", -20, Check.treaty(y, "like 7 x=2."));
+        Check.due("11: a fault behind a test", -21, Check.treaty(y, "like 7 x=2&"));
+        Check.due("11: TREATY", 0, Check.treaty(y, "quota 1"));
+        Check.due("11: no CLAUSE of another", 5, y.of(0, 22));
     }
 
     private static void holding() {
