@@ -351,6 +351,7 @@ public final class TermsOneTest {
         }
         Check.due(is + ": all are", 0, x.against(4, 0, 0));
         Check.due(is + ": it BEATS none", 0, x.against(4, 0, 1));
+        Check.due(is + ": what one LIKES stays", 6, x.of(0, 24));
     }
 
     /** One vote FOR 1 against 0, so many FOR 0 against 1. */

@@ -18,6 +18,7 @@ public final class TextTest {
         fourOthersAreTheMost();
         faultIsTheFirstByte();
         faultIsTheEnd();
+        faultsLeaveNothing();
         withoutATreatyNoClauses();
         newestHolds();
         sixTreatiesAtMost();
@@ -240,6 +241,13 @@ public final class TextTest {
         dueHolds(is + ", 99", true, y, 0, "v<99");
         dueHolds(is + ", 99", false, y, 0, "v=99");
         dueHolds(is + ", 99", false, y, 0, "v>99");
+        GooseVotes z = new GooseVotes();
+        z.official(0, 4, 1);
+        for (int n = 98; n <= 99; n++) {
+            dueHolds(is + ", " + n, true, z, 0, "v<" + n);
+            dueHolds(is + ", " + n, false, z, 0, "v=" + n);
+            dueHolds(is + ", " + n, false, z, 0, "v>" + n);
+        }
     }
 
     private static void dueIs(String sentence, GooseVotes x, int thing, char letter, int n) {
@@ -352,6 +360,22 @@ public final class TextTest {
             }
         }
         Check.due(is + ": as many of RICH are TREATIES", 10, treaties);
+    }
+
+    /** What is read ahead of a FAULT takes no room from the TREATY that comes then. */
+    private static void faultsLeaveNothing() {
+        String is = "-10 less the FAULT, and the next TREATY is whole";
+        GooseVotes x = Check.withVotes(0, 1);
+        String begun = "like 1 " + "x=1|".repeat(22) + "x=1";
+        for (int i = 0; i < 3; i++) {
+            Check.due(is + ": a FAULT", -10 - begun.length(), Check.treaty(x, begun + "+"));
+        }
+        Check.due(is + ": a FAULT of ten", -10 - 79, Check.treaty(x, clauses(10) + ";"));
+        Check.due(is, 0, Check.treaty(x, "like 9 x=0;like 8 x=1|x=2"));
+        Check.due(is + ": the first CLAUSE", 14, x.of(0, 20));
+        Check.due(is + ": the second CLAUSE", 13, x.of(0, 21));
+        Check.due(is + ": the second CLAUSE", 13, x.of(0, 22));
+        Check.due(is + ": none", 5, x.of(0, 23));
     }
 
     private static void withoutATreatyNoClauses() {
